@@ -32,7 +32,8 @@ final class Due {
 
     static String row(TreeOdds x) {
         StringBuilder s = new StringBuilder();
-        for (int k = 0; k < x.count(4); k++) s.append(x.at(k));
+        int signs = x.count(4);
+        for (int k = 0; k < signs; k++) s.append(x.at(k));
         return s.toString();
     }
 

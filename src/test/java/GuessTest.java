@@ -8,6 +8,7 @@ public final class GuessTest {
         node();
         guessers();
         halving();
+        weightsAtTheirEnds();
         cost();
         costBy();
         best();
@@ -106,7 +107,14 @@ public final class GuessTest {
         x.sign(1);
         DUE.is("61 1s by 2", x.node(0, 0, 1), 30);
         DUE.is("5 by 2", x.node(0, 0, 0), 2);
-        DUE.is("WEIGHT at most", Due.of("(01)x50").node(0, 0, 3), 64);
+    }
+
+    private static void weightsAtTheirEnds() {
+        DUE.is("WEIGHT at least", Due.of("(01)x50").node(0, 0, 3), 64);
+        TreeOdds x = Due.of("0x29 1 0x15 1 0x7 1010x9 110101011011010110101(101)x4 1");
+        x.sets(0, 1);
+        DUE.is("SIGNS", x.count(4), 99);
+        DUE.is("WEIGHT at most", x.node(0, 0, 3), 65472);
     }
 
     private static void cost() {
@@ -159,9 +167,7 @@ public final class GuessTest {
         DUE.is("all alike: COST", x.best(2), 16);
         String[] texts = {"1011(01)x20", "1x99", "0x62 1x10", "(100)x26", "(0110)x20", "(0011010)x12", "(00000 1)x15"};
         for (String text : texts) {
-            x.empties();
-            Due.type(x, text);
-            x.told();
+            x = Due.of(text);
             long before = x.digest();
             int[] least = {0, 0, x.costBy(0, 0)};
             for (int d = 6; d >= 0; d--) {
@@ -176,9 +182,19 @@ public final class GuessTest {
         DUE.is("DEPTH", x.best(0), 1);
         DUE.is("GUESSER", x.best(1), 2);
         DUE.is("COST", x.best(2), 234);
-        x.drop();
-        x.sign(0);
-        DUE.is("another row of the same length", x.best(2), x.costBy(x.best(0), x.best(1)));
+        x = Due.of("1011");
+        DUE.is("1011: DEPTH", x.best(0), 0);
+        DUE.is("1011: GUESSER", x.best(1), 3);
+        DUE.is("1011: COST", x.best(2), 56);
+        // Rows of one length that differ in one SIGN alone or in all.
+        for (String row : new String[] {"0x11", "10x10", "0x10 1", "1x11", "01x10", "(01)x5 0", "(10)x5 1"}) {
+            x.empties();
+            Due.type(x, row);
+            x.told();
+            int least = Integer.MAX_VALUE;
+            for (int i = 0; i < 28; i++) least = Math.min(least, x.costBy(i / 4, i % 4));
+            DUE.is(row + " anew: COST", x.best(2), least);
+        }
         x.empties();
         DUE.is("no row again", x.best(2), 0);
         DUE.is("best(3)", x.best(3), TreeOdds.BAD);

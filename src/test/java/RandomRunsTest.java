@@ -70,7 +70,7 @@ public final class RandomRunsTest {
                 return due("reads(" + k + ", " + by + ")", x.reads(k, by), y.reads(k, by));
             }
             case 20: { int c = number(0, 127); return due("type(" + c + ")", x.type(c), y.type(c)); }
-            case 21: case 22: return text(left);
+            case 21: case 22: return left < 2 ? 0 : text(left);
             case 23: return due("back()", x.back(), y.back());
             case 24: { int what = number(0, 7); return due("count(" + what + ")", x.count(what), y.count(what)); }
             default: return due("digest()", x.digest(), y.digest());

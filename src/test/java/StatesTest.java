@@ -37,6 +37,13 @@ public final class StatesTest {
         DUE.is("no more", x.back(), TreeOdds.NO);
         DUE.is("times NO stays", x.count(1), 2);
         DUE.is("a STATE behind back", x.sign(0) + x.count(7), 17);
+        x = Due.of("10110");
+        x.empties();
+        x.signs(9L, 5);
+        x.back();
+        x.back();
+        DUE.row("each SIGN as it was", x, "10110");
+        DUE.is("and the guess", x.guess(), Due.of("10110").guess());
     }
 
     private static void whichCallsLeaveOne() {

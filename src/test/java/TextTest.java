@@ -54,6 +54,10 @@ public final class TextTest {
     private static void rows() {
         tells("", "");
         tells("   ", "");
+        tells(" ".repeat(120), "");
+        tells(" ".repeat(119) + "1", "1");
+        tells("10".repeat(50) + " ".repeat(20), "10".repeat(50));
+        tells("(1)x1".repeat(24), "1".repeat(24));
         tells("0", "0");
         tells("1", "1");
         tells("0110", "0110");

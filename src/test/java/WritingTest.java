@@ -6,7 +6,9 @@ public final class WritingTest {
         written();
         carries();
         readAgain();
+        rangeJustEnough();
         spoilt();
+        spoiltAnywhere();
         wrong();
         DUE.end();
     }
@@ -84,6 +86,39 @@ public final class WritingTest {
         DUE.is("1 becomes 0", x.reads(0, 128), 0);
         x = new TreeOdds();
         DUE.is("no SIGNS", x.reads(3, 255), 0);
+    }
+
+    /** By LAST at DEPTH 0 these SIGNS halve RANGE, the fourth makes it a quarter: 2 to the 24 is not below itself. */
+    private static void rangeJustEnough() {
+        TreeOdds x = new TreeOdds();
+        x.sets(0, 0);
+        x.sets(1, 3);
+        Due.type(x, "0101010");
+        x.told();
+        DUE.is("RANGE 2 to the 24: bytes", x.written(TreeOdds.NONE), 4);
+        DUE.is("RANGE 2 to the 24: read again", x.reads(TreeOdds.NONE, 0), 7);
+        x.sign(1);
+        DUE.is("RANGE below it: bytes", x.written(TreeOdds.NONE), 5);
+        DUE.is("RANGE below it: read again", x.reads(TreeOdds.NONE, 0), 8);
+    }
+
+    /** Each byte of some rows changed, the last ones too, so that reading goes beyond the end here and there. */
+    private static void spoiltAnywhere() {
+        for (int seed = 0; seed < 40; seed++) {
+            TreeOdds x = new TreeOdds();
+            Plain y = new Plain();
+            x.sets(0, seed % 7);
+            x.sets(1, seed % 4);
+            x.draw(seed * 53, 40 + seed, 10 + seed * 2);
+            y.row = Due.row(x);
+            y.depth = seed % 7;
+            y.guesser = seed % 4;
+            for (int k = 0; k < x.written(TreeOdds.NONE); k++) {
+                for (int by : new int[] {1, 16, 128, 255}) {
+                    DUE.is("drawn by " + seed + ": reads(" + k + ", " + by + ")", x.reads(k, by), y.reads(k, by));
+                }
+            }
+        }
     }
 
     private static void wrong() {
