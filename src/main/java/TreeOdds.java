@@ -658,9 +658,16 @@ public final class TreeOdds {
             }
         }
 
-        /** The number comes ahead of the test of the room: without it nobody knows how many SIGNS there are. */
+        /**
+         * Any number is 1 at least, so that without room for one SIGN the sign is the fault, whatever stands behind
+         * its x; with room for one, how many SIGNS there are is not known ahead of the number.
+         */
         private void readSigns(int s) {
             int place = cursor;
+            if (found >= room) {
+                fault = place;
+                return;
+            }
             cursor++;
             skipBlanks();
             int times = here() == 'x' ? readTimes() : 1;
@@ -672,6 +679,7 @@ public final class TreeOdds {
             for (int i = 0; i < times; i++) addSign(s);
         }
 
+        /** All of the group has found room once, so that only the number can make them too many. */
         private void readGroupEnd() {
             int place = cursor;
             cursor++;

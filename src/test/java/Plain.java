@@ -438,6 +438,8 @@ final class Plain {
             } else if (at == At.BEHIND_GROUP) {
                 at = At.BEHIND_GROUP_X;
             } else if (c == '0' || c == '1') {
+                int before = out.length() + (group == null ? 0 : group.length());
+                if (row.length() + before + 1 > 100) return fault(fault, i);
                 place = i;
                 sign = c;
                 at = At.BEHIND_SIGN;

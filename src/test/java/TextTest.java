@@ -163,17 +163,53 @@ public final class TextTest {
         fault(100, " (1)x1", 2);
         fault(60, "0x40 1", 5);
         fault(99, "1(0)x1", 2);
-        // How many it would be is not known without the number.
-        fault(100, "0x", 2);
-        fault(100, "0x0", 2);
-        fault(99, "(0)x100", 4);
-        fault(99, "(0)", 3);
+        tooManyWhateverTheNumber();
+        tooManyOnlyByTheNumber();
         TreeOdds x = new TreeOdds();
         x.draw(3, 60, 50);
         Due.type(x, "(01)x20");
         DUE.is("to 100", x.told(), 40);
         Due.type(x, "  ");
         DUE.is("none behind 100", x.told(), 0);
+    }
+
+    /** A sign comes once at least: where one is too many, what stands behind it is not looked at. */
+    private static void tooManyWhateverTheNumber() {
+        fault(100, "1x" + (char) 0, 0);
+        fault(100, "0x", 0);
+        fault(100, "0x0", 0);
+        fault(100, "0x100", 0);
+        fault(100, " 0 x z", 1);
+        fault(100, "0z", 0);
+        fault(100, "(1x", 1);
+        fault(100, "(1xz)x1", 1);
+        fault(100, "(", 1);
+        fault(100, "()", 1);
+        fault(100, "z0", 0);
+        fault(99, "01x0", 1);
+        fault(99, "(0 1x)x1", 3);
+        fault(0, "0x99 1 0x", 7);
+        fault(0, "(0x50)x2 1x0", 9);
+        fault(0, "(0x99 1 0x", 8);
+    }
+
+    /** Where one still has room, a number that is not as told is the fault itself. */
+    private static void tooManyOnlyByTheNumber() {
+        fault(99, "0x", 2);
+        fault(99, "0x0", 2);
+        fault(99, "0x100", 2);
+        fault(99, "0x2", 0);
+        fault(99, "0x2z", 0);
+        fault(99, "0x1z", 3);
+        fault(99, "(0x2)x0", 1);
+        fault(99, "(0x", 3);
+        fault(99, "(0)x100", 4);
+        fault(99, "(0)x0", 4);
+        fault(99, "(0)x", 4);
+        fault(99, "(0)", 3);
+        fault(99, "(0)0", 3);
+        fault(99, "(0)x2", 2);
+        fault(98, "(01)x2z", 3);
     }
 
     private static void untouched() {
@@ -193,31 +229,33 @@ public final class TextTest {
         DUE.is("they cost as others do", x.cost(), y.cost());
     }
 
-    /** Each text of up to 6 of these bytes, on its own and where there is room for 3 alone. */
+    /** Each text of up to 6 of these bytes, on its own, and shorter ones where there is room for 3, 1 or none. */
     private static void allShortTexts() {
         char[] bytes = {'0', '1', '2', 'x', '(', ')', ' '};
-        String few = "", many = "01".repeat(48) + "1";
         for (int n = 1; n <= 6; n++) {
             int all = 1;
             for (int i = 0; i < n; i++) all *= bytes.length;
             for (int number = 0; number < all; number++) {
                 StringBuilder text = new StringBuilder();
                 for (int i = 0, left = number; i < n; i++, left /= bytes.length) text.append(bytes[left % bytes.length]);
-                shortText(few, text.toString());
-                if (n <= 5) shortText(many, text.toString());
+                shortText(0, text.toString());
+                if (n <= 5) shortText(97, text.toString());
+                if (n <= 4) shortText(99, text.toString());
+                if (n <= 4) shortText(100, text.toString());
             }
         }
     }
 
-    private static void shortText(String row, String text) {
-        TreeOdds x = row.isEmpty() ? new TreeOdds() : Due.of("(01)x48 1");
+    private static void shortText(int there, String text) {
+        String row = "01".repeat(50).substring(0, there);
+        TreeOdds x = Due.of(row);
         Plain y = new Plain();
         y.row = row;
         y.text = text;
         int[] fault = new int[1];
         String signs = y.signsOfText(fault);
         Due.type(x, text);
-        DUE.is("told() of '" + text + "' behind " + row.length(), x.told(), fault[0] < 0 ? signs.length() : -10 - fault[0]);
-        DUE.row("'" + text + "' behind " + row.length(), x, row + signs);
+        DUE.is("told() of '" + text + "' behind " + there, x.told(), fault[0] < 0 ? signs.length() : -10 - fault[0]);
+        DUE.row("'" + text + "' behind " + there, x, row + signs);
     }
 }
