@@ -1,3 +1,5 @@
+import java.util.function.IntSupplier;
+
 /** Counts and prints the answers that are not the due ones. */
 final class Due {
     private final String test;
@@ -15,6 +17,39 @@ final class Due {
         System.out.println(test + ": " + call + " answered " + got + ", due is " + want);
     }
 
+    void yes(String what, boolean got) {
+        is(what, got ? 1 : 0, 1);
+    }
+
+    /** The call answers so, and all that the digest tells is as it was. */
+    void stays(String call, TreeOdds x, IntSupplier ask, int want) {
+        long before = x.digest();
+        is(call, ask.getAsInt(), want);
+        is(call + ": the digest behind it", x.digest(), before);
+    }
+
+    /** The call is refused: nothing changes but how often. */
+    void refused(String call, TreeOdds x, IntSupplier ask, int why) {
+        refused(call, x, ask, why, why);
+    }
+
+    void refused(String call, TreeOdds x, IntSupplier ask, int why, int answer) {
+        long before = x.digest();
+        int what = TreeOdds.BAD - why;
+        int times = x.count(what);
+        is(call, ask.getAsInt(), answer);
+        is(call + ": how often", x.count(what), times + 1);
+        is(call + ": the digest behind it", x.digest(), before + shareInDigest(x, what));
+    }
+
+    /** By how much the digest is more, if count(what) is 1 more: 31 as often as a number comes behind it. */
+    private static long shareInDigest(TreeOdds x, int what) {
+        int behind = 7 - what + x.count(4) + 3 + x.written(TreeOdds.NONE);
+        long share = 1;
+        for (int i = 0; i < behind; i++) share *= 31;
+        return share;
+    }
+
     /** The text is typed in place of the one there was. */
     static void type(TreeOdds x, String text) {
         x.clear();
@@ -28,6 +63,19 @@ final class Due {
         x.told();
         x.clear();
         return x;
+    }
+
+    /** An object with this row of noughts and ones, by this DEPTH and GUESSER. */
+    static TreeOdds of(int depth, int guesser, String row) {
+        TreeOdds x = new TreeOdds();
+        x.sets(0, depth);
+        x.sets(1, guesser);
+        put(x, row);
+        return x;
+    }
+
+    static void put(TreeOdds x, String row) {
+        for (int i = 0; i < row.length(); i++) x.sign(row.charAt(i) - '0');
     }
 
     static String row(TreeOdds x) {
