@@ -57,7 +57,16 @@ public final class FaceTest {
         for (Class<?> c : inside) {
             DUE.is("static: " + c.getName(), Modifier.isStatic(c.getModifiers()) ? 1 : 0, 1);
             DUE.is("not public: " + c.getName(), Modifier.isPublic(c.getModifiers()) ? 1 : 0, 0);
+            sizes(c);
         }
+        sizes(TreeOdds.class);
+    }
+
+    private static void sizes(Class<?> c) {
+        int fields = 0;
+        for (Field f : c.getDeclaredFields()) fields += Modifier.isStatic(f.getModifiers()) ? 0 : 1;
+        DUE.yes("twenty fields at most: " + c.getName(), fields <= 20);
+        for (Method m : c.getDeclaredMethods()) DUE.yes("seven parameters at most: " + m, m.getParameterCount() <= 7);
     }
 
     private static void methods() {

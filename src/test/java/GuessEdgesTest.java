@@ -30,6 +30,8 @@ public final class GuessEdgesTest {
         costByIsOfDepth0To6AndGuesser0To3();
         bestWhatIs0To2();
         bestOfLikeOnesIsTheLeastDepthThenGuesser();
+        bestIsOfAllDepthsAndGuessers();
+        bestIsOfTheRowThereIs();
         followsIs1To16();
         followsIs1From32768On();
         followsGoesOnBeyondHundred();
@@ -395,6 +397,58 @@ public final class GuessEdgesTest {
         TreeOdds x = Due.of(6, 3, "1");
         DUE.is("one SIGN is like by all: DEPTH", x.best(0), 0);
         DUE.is("one SIGN is like by all: GUESSER", x.best(1), 0);
+    }
+
+    /** Promise 14: "DEPTH and GUESSER of the least COST": from DEPTH 0 to 6 and from GUESSER 0 to 3. */
+    private static void bestIsOfAllDepthsAndGuessers() {
+        // By each row one DEPTH and one GUESSER alone cost least: a part of it, and how many SIGNS it has.
+        String[] rows = {
+            "00000010 70", "111111110 89", "1111 71", "01111111 63", "001111111111000000 94", "00101010110101 62",
+            "1010 99", "010110101 60", "01010101011111111111 65", "01000101001010101111111 70", "1100 85",
+            "1000000001 68", "110110111011100111011 68", "010110110111011001011 71", "0110 79",
+            "01000101010110101 64", "00111000111001111001 75", "110010000100010010100010 64", "1001 80",
+            "100000000111100011 62", "0100001010101101 65", "010100101011000000001101 65", "11001 64",
+            "010101011111110101101011 62", "01111010111110111 67", "00100101000010001000011 60", "111001 96",
+            "0110111011010101011 93"};
+        for (int i = 0; i < 28; i++) {
+            String[] words = rows[i].split(" ");
+            TreeOdds x = Due.of(3, 0, words[0].repeat(30).substring(0, Integer.parseInt(words[1])));
+            int dearer = 0;
+            for (int j = 0; j < 28; j++) dearer += x.costBy(j / 4, j % 4) > x.costBy(i / 4, i % 4) ? 1 : 0;
+            DUE.is(rows[i] + ": the others are dearer", dearer, 27);
+            DUE.is(rows[i] + ": DEPTH", x.best(0), i / 4);
+            DUE.is(rows[i] + ": GUESSER", x.best(1), i % 4);
+            DUE.is(rows[i] + ": COST", x.best(2), x.costBy(i / 4, i % 4));
+        }
+    }
+
+    /** Asked again, when the row has become another one of its length, or another length. */
+    private static void bestIsOfTheRowThereIs() {
+        TreeOdds x = Due.of(3, 0, "0");
+        DUE.is("of 0", x.best(2), 16);
+        x.empties();
+        DUE.is("of none", x.best(2), 0);
+        // Neighbours differ in the last SIGN, in the first one, in all of them, or in how many they are.
+        String[] rows = {
+            "0000000001", "0000000000", "1000000000", "0111111111", "111111111", "0101010101", "1010101010", "1010101011",
+            "101010101"};
+        for (int i = 0; i < 4 * rows.length; i++) {
+            int turn = i % (2 * rows.length);
+            String row = rows[turn < rows.length ? turn : 2 * rows.length - 1 - turn];
+            x.empties();
+            Due.put(x, row);
+            DUE.is("of " + row, x.best(2), Due.of(6, 1, row).best(2));
+        }
+        TreeOdds y = Due.of(3, 0, "0000000001");
+        y.best(0);
+        y.drop();
+        y.sign(0);
+        DUE.is("the last SIGN is another", y.best(2), Due.of(3, 0, "0000000000").best(2));
+        y.back();
+        y.back();
+        DUE.is("behind back()", y.best(2), Due.of(3, 0, "0000000001").best(2));
+        TreeOdds full = Due.of(2, 2, "01".repeat(50));
+        for (int i = 0; i < 2; i++) DUE.stays("of 100", full, () -> full.best(2), full.costBy(full.best(0), full.best(1)));
     }
 
     /** Promise 15: "The n (1 .. 16) SIGNS ... BAD. All stays". */

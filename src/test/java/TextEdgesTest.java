@@ -29,6 +29,8 @@ public final class TextEdgesTest {
         endsTooEarlyAtItsLength();
         noTextNoSigns();
         byAFaultNothingIsDone();
+        eachReadingBeginsAnew();
+        aShorterTextEndsAtItsOwnEnd();
         DUE.end();
     }
 
@@ -431,5 +433,39 @@ public final class TextEdgesTest {
         full.type('0');
         for (int i = 0; i < 3; i++) DUE.stays("a FAULT of 101 SIGNS", full, full::told, -10);
         DUE.is("it is not FULL", full.count(2), 0);
+    }
+
+    /** Promise 22: the TEXT stays, so that it can be told again, and mended where there is a FAULT. */
+    private static void eachReadingBeginsAnew() {
+        TreeOdds x = new TreeOdds();
+        Due.type(x, "1(0");
+        DUE.is("it ends within (", x.told(), -13);
+        for (char c : ")x2".toCharArray()) x.type(c);
+        for (int i = 1; i <= 3; i++) {
+            DUE.is("told() mended", x.told(), 3);
+            DUE.is("SIGNS", x.count(4), 3 * i);
+        }
+        x.type('z');
+        DUE.is("spoilt", x.told(), -16);
+        Due.type(x, "01");
+        DUE.is("another TEXT", x.told(), 2);
+        DUE.row("all", x, "100".repeat(3) + "01");
+        Due.type(x, "0x89");
+        DUE.is("to 100", x.told(), 89);
+        DUE.is("again", x.told(), -10);
+        x.back();
+        DUE.is("again, when there is room", x.told(), 89);
+    }
+
+    /** Bytes of a TEXT that was cleared don't come back. */
+    private static void aShorterTextEndsAtItsOwnEnd() {
+        String[][] longer = {{"0x25", "0x2"}, {"0x2", "0x"}, {"0x2", "0"}, {"01", "0"}, {"(0)x2", "(0)x"}, {"(0)x2", "(0)"}, {"(0)x2", ""}, {"0   1", "0 "}};
+        int[] want = {2, -12, 1, 1, -14, -13, 0, 1};
+        for (int i = 0; i < want.length; i++) {
+            TreeOdds x = new TreeOdds();
+            Due.type(x, longer[i][0]);
+            Due.type(x, longer[i][1]);
+            DUE.is("'" + longer[i][1] + "' behind '" + longer[i][0] + "'", x.told(), want[i]);
+        }
     }
 }

@@ -21,6 +21,7 @@ public final class WritingEdgesTest {
         readIs1BelowThePartOf1();
         readTakesTheNextByteBelow2ToThe24();
         readHas0sBehindTheEnd();
+        readHas0sBehindTheEndOfAShorterRow();
         readsAsManySignsAsThereAre();
         DUE.end();
     }
@@ -211,16 +212,33 @@ public final class WritingEdgesTest {
         }
     }
 
+    /** Rows that are written in few bytes; changed, they are read as dearer ones, for which the bytes don't last. */
+    private static final Object[][] CHEAP = {
+        {6, 1, "0000010000000000000000000000", 29, 17}, {0, 0, "1".repeat(27), 178, 9}, {3, 2, "0".repeat(30), 69, 15},
+        {2, 2, "0".repeat(37), 85, 15}, {4, 2, "1".repeat(44), 76, 23}, {5, 2, "0".repeat(52), 85, 25}};
+
     /** Promise 19: "(0s behind the end)". */
     private static void readHas0sBehindTheEnd() {
-        // These rows are written in few bytes; changed, they are read as dearer ones, for which the bytes don't last.
-        Object[][] runs = {
-            {6, 1, "0000010000000000000000000000", 29, 17}, {0, 0, "1".repeat(27), 178, 9}, {3, 2, "0".repeat(30), 69, 15},
-            {2, 2, "0".repeat(37), 85, 15}, {4, 2, "1".repeat(44), 76, 23}, {5, 2, "0".repeat(52), 85, 25}};
-        for (Object[] r : runs) {
+        for (Object[] r : CHEAP) {
             TreeOdds x = Due.of((Integer) r[0], (Integer) r[1], (String) r[2]);
             int by = (Integer) r[3];
             DUE.stays(r[2] + ": reads(0, " + by + ")", x, () -> x.reads(0, by), (Integer) r[4]);
+        }
+    }
+
+    /** What a longer row was written in counts no more. */
+    private static void readHas0sBehindTheEndOfAShorterRow() {
+        for (Object[] r : CHEAP) {
+            for (int seed = 1; seed <= 20; seed++) {
+                TreeOdds x = new TreeOdds();
+                x.draw(seed, 100, 50);
+                x.written(TreeOdds.NONE);
+                x.empties();
+                x.sets(0, (Integer) r[0]);
+                x.sets(1, (Integer) r[1]);
+                Due.put(x, (String) r[2]);
+                DUE.is(r[2] + " behind 100 drawn by " + seed, x.reads(0, (Integer) r[3]), (Integer) r[4]);
+            }
         }
     }
 
